@@ -134,7 +134,7 @@ public final class PrintRegister {
     public int run(int n) {
         if (isOutside(n, 1, MOST_REPEATS)) return BAD_VALUE - SHIFT;
         if (press.time + n > MOST_TIME) return NOT_POSSIBLE - SHIFT;
-        press.makeRepeats(n);
+        for (int i = 0; i < n; i++) press.makeRepeat();
         return press.time;
     }
 
@@ -211,7 +211,7 @@ public final class PrintRegister {
         if (found == null) return NO_SUCH - SHIFT;
         if (isPlace(setting) || !isSettingValue(setting, value)) return BAD_VALUE - SHIFT;
         if (isOutside(n, 1, MOST_REPEATS)) return BAD_VALUE - SHIFT;
-        return errorsWith(unit, setting, value, n);
+        return copy.sumErrorsIn(press, unit, setting, value, n);
     }
 
     public int bestGain(int unit, int first, int step, int count, int n) {
@@ -223,10 +223,10 @@ public final class PrintRegister {
         if (first + step * (count - 1) > MOST_GAIN) return BAD_VALUE - SHIFT;
         if (isOutside(n, 1, MOST_REPEATS)) return BAD_VALUE - SHIFT;
         int best = first;
-        int least = errorsWith(unit, GAIN, first, n);
+        int least = copy.sumErrorsIn(press, unit, GAIN, first, n);
         for (int i = 1; i < count; i++) {
             int gain = first + step * i;
-            int sum = errorsWith(unit, GAIN, gain, n);
+            int sum = copy.sumErrorsIn(press, unit, GAIN, gain, n);
             if (sum < least) {
                 least = sum;
                 best = gain;
@@ -301,16 +301,10 @@ public final class PrintRegister {
         return slot == 1 ? slot1 : null;
     }
 
-    /** The sum that attempt() answers; the arguments have been checked. */
-    private int errorsWith(int unit, int setting, int value, int n) {
-        copy.copyFrom(press);
-        return copy.sumErrorsWith(unit, setting, value, n);
-    }
-
     private void carryOutStep() {
         switch (pad.kind) {
             case 'n':
-                press.makeRepeats(pad.number);
+                for (int i = 0; i < pad.number; i++) press.makeRepeat();
                 break;
             case 'v':
                 press.speedNow = pad.number;
@@ -358,7 +352,8 @@ public final class PrintRegister {
     }
 
     private static int limited(int value, int most) {
-        return Math.max(-most, Math.min(most, value));
+        if (value > most) return most;
+        return value < -most ? -most : value;
     }
 
     private static int lessOne(int left) {
@@ -440,8 +435,9 @@ public final class PrintRegister {
             return unit != null && unit.sensor.sawPiece && Math.abs(unit.sensor.trueError) <= band;
         }
 
-        /** Sets a setting, makes n repeats, and adds up the absolute values of the true errors in them. */
-        int sumErrorsWith(int number, int setting, int value, int n) {
+        /** Becomes a copy, sets a setting, makes n repeats, and adds up the sizes of the true errors in them. */
+        int sumErrorsIn(Press other, int number, int setting, int value, int n) {
+            copyFrom(other);
             Unit unit = unitAt(number);
             if (unit == null) return 0;
             unit.changeSetting(setting, value);
@@ -453,16 +449,16 @@ public final class PrintRegister {
             return sum;
         }
 
-        void makeRepeats(int n) {
-            for (int i = 0; i < n; i++) makeRepeat();
-        }
-
         void makeRepeat() {
             int change = speedNow - speedBefore;
             changes[time & PRINTS_MASK] = change;
             bringSplice();
             for (int u = 0; u < unitCount; u++) units[u].printPiece(time, change);
-            watch();
+            int way = 0;
+            for (int u = 1; u < unitCount; u++) {
+                way += units[u].setting(DISTANCE);
+                watchUnit(units[u], way);
+            }
             for (int u = 0; u < unitCount; u++) units[u].endRepeat();
             speedBefore = speedNow;
             time++;
@@ -474,14 +470,6 @@ public final class PrintRegister {
             for (int u = 0; u < unitCount; u++) {
                 if (u > 0) way += units[u].setting(DISTANCE);
                 if (time == spliceStart + way) units[u].beSpliced(spliceAmount, spliceDuration);
-            }
-        }
-
-        private void watch() {
-            int way = 0;
-            for (int u = 1; u < unitCount; u++) {
-                way += units[u].setting(DISTANCE);
-                watchUnit(units[u], way);
             }
         }
 

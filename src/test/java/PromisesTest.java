@@ -294,11 +294,13 @@ public final class PromisesTest {
         x.run(3);
         due("-92 * 100 / -19 * 64 / 256 more", x.state(1, 3), 12 + 121);
         x.set(1, 8, 0);
-        x.speed(100);
-        x.run(6);
-        due("LEARN 0 teaches nothing", x.total(5), 2);
-        x.set(1, 8, 256);
         x.set(1, 2, 2000);
+        x.speed(100);
+        x.run(4);
+        due("a great change is seen", x.seen(1, 5), 367);
+        due("LEARN 0 teaches nothing", x.total(5), 2);
+        x.run(2);
+        x.set(1, 8, 256);
         x.set(1, 10, -500);
         x.speed(0);
         x.run(4);

@@ -1024,16 +1024,19 @@ public final class PromisesTest {
         due("the amount has its sign", x.seen(0, 0), -300);
         StringBuilder many = new StringBuilder("n98");
         for (int i = 0; i < 19; i++) many.append(",n99");
-        x.setUp(5);
-        for (int i = 0; i < 50; i++) {
-            Check.putText(x, many.toString());
-            due("many", x.carryOut(), 98 + 19 * 99);
-        }
-        due("time", x.count(0), 50 * 1979);
+        x = new PrintRegister();
+        for (int i = 0; i < 326; i++) x.run(300);
+        x.run(221);
+        x.save(0);
+        Check.putText(x, many.toString());
+        due("many", x.carryOut(), 98 + 19 * 99);
+        due("time", x.count(0), 100000);
+        x.restore(0);
+        x.run(1);
         Check.putText(x, many.toString());
         due("too late", x.carryOut(), Check.NOT_POSSIBLE);
         due("the pad stays", x.wipe(), 79);
-        x.setUp(3);
+        x = new PrintRegister();
         for (int i = 0; i < 333; i++) x.run(300);
         Check.putText(x, "n50,n51");
         due("101 are too many", x.carryOut(), Check.NOT_POSSIBLE);
@@ -1097,16 +1100,19 @@ public final class PromisesTest {
         due("restore(0)", x.restore(0), 35);
         due("not the pad", x.count(4), 3);
         dueSame(x, same);
-        for (int i = 0; i < 100; i++) {
+        for (int i = 0; i < 20; i++) {
             x.run(1);
             same.run(1);
-            dueSame(x, same);
+            int u = i % 5;
+            for (int what : new int[] {0, 3, 4, 8}) due("state", x.state(u, what), same.state(u, what));
+            for (int what = 0; what < 3; what++) due("seen", x.seen(u, what), same.seen(u, what));
         }
         due("the slot keeps it", x.restore(0), 35);
         due("time", x.count(0), 35);
         due("units", x.count(1), 5);
     }
 
+    /** All that can be asked now: 190 calls. */
     private static void dueSame(PrintRegister x, PrintRegister y) {
         for (int what = 0; what < 4; what++) due("count", x.count(what), y.count(what));
         for (int what = 0; what < 6; what++) due("total", x.total(what), y.total(what));

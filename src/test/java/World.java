@@ -48,10 +48,13 @@ final class World {
     }
 
     void dueUnchanged(String what, PrintRegister x) {
-        List<Integer> now = asked(x);
-        int differing = 0;
-        while (differing < answers.size() && now.get(differing).equals(answers.get(differing))) differing++;
-        Check.due(name + ": " + what + ": the first of the answers behind it that has changed", differing, answers.size());
+        dueSame(name + ": " + what, asked(x), answers);
+    }
+
+    static void dueSame(String what, List<Integer> got, List<Integer> want) {
+        int same = 0;
+        while (same < got.size() && same < want.size() && got.get(same).equals(want.get(same))) same++;
+        Check.due(what + ": how many answers behind it are the same", same, Math.max(got.size(), want.size()));
     }
 
     private static PrintRegister fresh() {
@@ -113,13 +116,29 @@ final class World {
         return x;
     }
 
-    /** What can be asked now, and how it goes on then. */
+    /** What can be asked now, and how it goes on then, also with the pad and the slots. */
     private static List<Integer> asked(PrintRegister x) {
+        List<Integer> answers = askedOfUnits(x);
+        int units = x.count(1);
+        answers.add(x.count(4));
+        answers.add(x.fault());
+        answers.add(x.carryOut());
+        answers.add(x.count(4));
+        goingOn(x, units, answers);
+        for (int slot = 0; slot < 2; slot++) {
+            answers.add(x.restore(slot));
+            answers.add(x.run(1));
+            goingOn(x, x.count(1), answers);
+        }
+        return answers;
+    }
+
+    /** What can be asked now, and how it goes on then, of all but the pad and the slots. */
+    static List<Integer> askedOfUnits(PrintRegister x) {
         List<Integer> answers = new ArrayList<>();
         int units = x.count(1);
-        for (int what = 0; what < 5; what++) answers.add(x.count(what));
+        for (int what = 0; what < 4; what++) answers.add(x.count(what));
         for (int what = 0; what < 6; what++) answers.add(x.total(what));
-        answers.add(x.fault());
         for (int u = 0; u < units; u++) {
             for (int i = 0; i < 11; i++) answers.add(x.get(u, i));
             for (int i = 0; i < 14; i++) answers.add(x.state(u, i));
@@ -133,14 +152,6 @@ final class World {
             answers.add(time);
             if (time < 0) break;
             goingOn(x, units, answers);
-        }
-        answers.add(x.carryOut());
-        answers.add(x.count(4));
-        goingOn(x, units, answers);
-        for (int slot = 0; slot < 2; slot++) {
-            answers.add(x.restore(slot));
-            answers.add(x.run(1));
-            goingOn(x, x.count(1), answers);
         }
         return answers;
     }

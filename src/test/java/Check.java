@@ -1,5 +1,8 @@
-/** Counts answers that are not as due, and ends a test's program accordingly. */
-final class Check {
+/**
+ * Counts answers that are not as due, and ends a test's program accordingly. It is public for the examples of README.md,
+ * which are loaded beside it.
+ */
+public final class Check {
     static final int NO_SUCH = PrintRegister.NO_SUCH - PrintRegister.SHIFT;
     static final int BAD_VALUE = PrintRegister.BAD_VALUE - PrintRegister.SHIFT;
     static final int BAD_TEXT = PrintRegister.BAD_TEXT - PrintRegister.SHIFT;
@@ -13,7 +16,7 @@ final class Check {
     private Check() {
     }
 
-    static void due(String what, long got, long want) {
+    public static void due(String what, long got, long want) {
         checks++;
         if (got != want) {
             wrong++;
@@ -21,7 +24,7 @@ final class Check {
         }
     }
 
-    static void dueTrue(String what, boolean holds) {
+    public static void dueTrue(String what, boolean holds) {
         due(what, holds ? 1 : 0, 1);
     }
 
